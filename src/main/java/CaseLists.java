@@ -581,8 +581,9 @@ public final class CaseLists {
             int best = NONE;
             int least = FAR;
             for (int next = 0; next < count; next++) {
-                if (!holds(done, next) && weightOfNext(done, last, next) < least) {
-                    least = weightOfNext(done, last, next);
+                int weight = holds(done, next) ? FAR : weightOfNext(done, last, next);
+                if (weight < least) {
+                    least = weight;
                     best = next;
                 }
             }

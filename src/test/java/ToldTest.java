@@ -160,9 +160,11 @@ public final class ToldTest {
         x.change(4, 45);
         x.change(5, 30);
         Check.due("16 until the first touch", 45, () -> x.proves(0, 20));
-        x.result(0, 0, 51, true);
-        x.result(0, 1, 51, true);
-        Check.due("16 behind the touches", 152, () -> x.proves(0, 51));
+        x.change(3, 60);
+        Check.due("16 a later touch is told last", 45, () -> x.proves(0, 20));
+        x.result(0, 0, 61, true);
+        x.result(0, 1, 61, true);
+        Check.due("16 behind the touches", 162, () -> x.proves(0, 61));
     }
 
     private static void latestTouch() {
@@ -176,6 +178,10 @@ public final class ToldTest {
         Check.due("17 between", 20, () -> x.touched(0, 29));
         Check.due("17 the latest, not the last told", 30, () -> x.touched(0, 30));
         Check.due("17 the other case", 20, () -> x.touched(1, 30));
+        x.fault(6, NONE);
+        x.change(6, 30);
+        Check.due("17 another case on the same day", 30, () -> x.touched(2, 30));
+        Check.due("17 the first is touched still", 30, () -> x.touched(0, 30));
         x.change(3, 0);
         Check.due("17 day 0", 0, () -> x.touched(1, 0));
         x.change(3, 100000);
