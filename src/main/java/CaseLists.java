@@ -199,7 +199,9 @@ public final class CaseLists {
     }
 
     private static void needNotNegative(int k) {
-        needWithin(k, 0, Integer.MAX_VALUE);
+        if (k < 0) {
+            throw new IllegalArgumentException("k is below 0");
+        }
     }
 
     private static void needWithin(int number, int least, int most) {

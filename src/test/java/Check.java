@@ -8,8 +8,14 @@ final class Check {
     static final long ILLEGAL_STATE = Long.MIN_VALUE + 1;
 
     private static int wrong = 0;
+    private static String sentence = "";
 
     private Check() {
+    }
+
+    /** The document's words that the checks from here on hold to; printed with what fails. */
+    static void sentence(String words) {
+        sentence = "[" + words + "] ";
     }
 
     /** What a call answers, or which of the document's exceptions it throws. */
@@ -28,8 +34,13 @@ final class Check {
     static void due(String what, long want, Call call) {
         long got = of(call);
         if (got != want) {
-            wrong++;
-            System.out.println(what + ": answered " + text(got) + ", due is " + text(want));
+            fail(what, "answered " + text(got) + ", due is " + text(want));
+        }
+    }
+
+    static void due(String what, boolean want, boolean got) {
+        if (got != want) {
+            fail(what, "is " + got + ", due is " + want);
         }
     }
 
@@ -48,9 +59,13 @@ final class Check {
         }
     }
 
-    private static long strange(RuntimeException e) {
+    private static void fail(String what, String how) {
         wrong++;
-        System.out.println("thrown, but not by the document: " + e);
+        System.out.println(sentence + what + ": " + how);
+    }
+
+    private static long strange(RuntimeException e) {
+        fail("a call", "threw " + e + ", which the document does not name");
         return Long.MIN_VALUE + 2;
     }
 
